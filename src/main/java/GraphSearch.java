@@ -55,7 +55,6 @@ public final class GraphSearch {
         int node = nodeCount;
         worths[node] = worth;
         losts[node] = lost;
-        moveCounts[node] = 0;
         nodeCount++;
         forgetTable();
         return node;

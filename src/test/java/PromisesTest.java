@@ -200,6 +200,11 @@ public final class PromisesTest {
         Due.due("6: value(0, 2)", 10, () -> game.value(0, 2));
         Due.due("6: value(1, 7)", -10, () -> game.value(1, 7));
         Due.due("6: value(0, 7)", 20, () -> game.value(0, 7));
+        GraphSearch far = game(500, -500);
+        moves(far, 0, 1);
+        moves(far, 1, 0);
+        Due.due("6: the greatest worth is no mate", -500, () -> far.value(1, 1));
+        Due.due("6: the least worth is no mate", 500, () -> far.value(0, 1));
         GraphSearch alone = game(-300);
         moves(alone, 0, 0);
         for (int depth = 0; depth <= 7; depth++) {
@@ -436,9 +441,11 @@ public final class PromisesTest {
         Due.due("6: then shallow", 10, () -> game.value(0, 0));
         game.change(1, 21, false);
         Due.due("6: after change", -21, () -> game.value(0, 7));
-        game.move(0, game.node(0, true));
-        Due.due("6: after node and move", 999, () -> game.value(0, 7));
-        Due.due("7: after node and move", 1, () -> game.best(0, 7));
+        game.node(0, true);
+        Due.due("6: after node", -21, () -> game.value(0, 7));
+        game.move(0, 2);
+        Due.due("6: after move", 999, () -> game.value(0, 7));
+        Due.due("7: after move", 1, () -> game.best(0, 7));
         game.drop(0);
         Due.due("6: after drop", -21, () -> game.value(0, 7));
         Due.due("6: the new node", -1000, () -> game.value(2, 7));
