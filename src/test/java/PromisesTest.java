@@ -1,4 +1,4 @@
-/** Each promise of the document by itself: ordinary inputs, the edges that it names, and wrong inputs. */
+/** Each promise of the document by itself, in ordinary use; EdgesTest goes along its edges. */
 public final class PromisesTest {
     private static final int NONE = GraphSearch.NONE;
     private static final int LEAST = Integer.MIN_VALUE;
@@ -6,11 +6,8 @@ public final class PromisesTest {
 
     public static void main(String[] args) {
         aNewObject();
-        kChangesNothing();
         node();
-        nodeLimit();
         move();
-        moveLimit();
         drop();
         change();
         value();
@@ -23,36 +20,7 @@ public final class PromisesTest {
         of();
         around();
         look();
-        wrongQuestions();
-        whatWasAskedBefore();
         Due.end();
-    }
-
-    /** A game with a node for each worth, none of them LOST. */
-    private static GraphSearch game(int... worths) {
-        GraphSearch game = new GraphSearch(0);
-        for (int worth : worths) {
-            game.node(worth, false);
-        }
-        return game;
-    }
-
-    private static void moves(GraphSearch game, int from, int... targets) {
-        for (int to : targets) {
-            game.move(from, to);
-        }
-    }
-
-    /** Nodes 0 .. length in a row, the last one LOST, each with a move to the next. */
-    private static GraphSearch rowToLost(int length) {
-        GraphSearch game = new GraphSearch(0);
-        for (int i = 0; i <= length; i++) {
-            game.node(100 + i, i == length);
-        }
-        for (int i = 0; i < length; i++) {
-            game.move(i, i + 1);
-        }
-        return game;
     }
 
     private static void aNewObject() {
@@ -65,19 +33,6 @@ public final class PromisesTest {
         Due.due("1: move(0, 0)", Due.ARGUMENT, () -> game.move(0, 0));
         Due.due("1: drop(0)", false, () -> game.drop(0));
         Due.due("1: change(0, 0)", false, () -> game.change(0, 0, false));
-    }
-
-    private static void kChangesNothing() {
-        for (int k : new int[] {LEAST, -1, 0, 1, 5, 9, 10, 11, MOST}) {
-            GraphSearch game = new GraphSearch(k);
-            Due.due("1: k " + k + " node", 0, () -> game.node(7, false));
-            Due.due("1: k " + k + " node", 1, () -> game.node(-9, false));
-            Due.due("1: k " + k + " move", 0, () -> game.move(0, 1));
-            Due.due("1: k " + k + " move", 0, () -> game.move(1, 0));
-            Due.due("1: k " + k + " value", 9, () -> game.value(0, 7));
-            Due.due("1: k " + k + " best", 0, () -> game.best(0, 7));
-            Due.due("1: k " + k + " around", 2, () -> game.around(0, 7));
-        }
     }
 
     private static void node() {
@@ -96,24 +51,8 @@ public final class PromisesTest {
         Due.due("2: moves of 1", 0, () -> game.of(1, 2));
     }
 
-    private static void nodeLimit() {
-        GraphSearch game = new GraphSearch(0);
-        for (int i = 0; i < 400; i++) {
-            int number = i;
-            Due.due("2: node " + i, number, () -> game.node(number - 200, number % 2 == 0));
-        }
-        Due.due("2: node 400", Due.STATE, () -> game.node(0, false));
-        Due.due("2: node 400 of a wrong worth", Due.ARGUMENT, () -> game.node(501, false));
-        Due.due("2: nodes when full", 400, () -> game.look(0));
-        Due.due("2: worth of 399", 199, () -> game.of(399, 0));
-        Due.due("2: move of the last node", 0, () -> game.move(399, 398));
-        Due.due("2: value of the last node", 999, () -> game.value(399, 7));
-        Due.due("2: value(400)", Due.ARGUMENT, () -> game.value(400, 0));
-        Due.due("2: around the last node", 2, () -> game.around(399, 1));
-    }
-
     private static void move() {
-        GraphSearch game = game(1, 2, 3);
+        GraphSearch game = Games.with(1, 2, 3);
         Due.due("3: move(0, 1)", 0, () -> game.move(0, 1));
         Due.due("3: move(0, 2)", 1, () -> game.move(0, 2));
         Due.due("3: move(0, 1) again", 2, () -> game.move(0, 1));
@@ -129,25 +68,11 @@ public final class PromisesTest {
         Due.due("3: target of move 3", 0, () -> game.of(0, 6));
     }
 
-    private static void moveLimit() {
-        GraphSearch game = game(1, 2);
-        for (int i = 0; i < 6; i++) {
-            Due.due("3: move " + i, i, () -> game.move(0, 1));
-        }
-        Due.due("3: move 6", Due.STATE, () -> game.move(0, 1));
-        Due.due("3: move 6 to no node", Due.ARGUMENT, () -> game.move(0, 2));
-        Due.due("3: moves when full", 6, () -> game.look(1));
-        Due.due("3: another node's move", 0, () -> game.move(1, 0));
-        Due.due("3: target of the other's move", 0, () -> game.of(1, 3));
-        Due.due("3: drop when full", true, () -> game.drop(0));
-        Due.due("3: move 5 again", 5, () -> game.move(0, 0));
-    }
-
     private static void drop() {
-        GraphSearch game = game(10, 20, -30);
-        moves(game, 0, 1, 2);
-        moves(game, 1, 0);
-        moves(game, 2, 0);
+        GraphSearch game = Games.with(10, 20, -30);
+        Games.addMoves(game, 0, 1, 2);
+        Games.addMoves(game, 1, 0);
+        Games.addMoves(game, 2, 0);
         Due.due("4: value(0, 1) before", 30, () -> game.value(0, 1));
         Due.due("4: drop(0)", true, () -> game.drop(0));
         Due.due("4: the latest went", NONE, () -> game.of(0, 4));
@@ -164,8 +89,8 @@ public final class PromisesTest {
     }
 
     private static void change() {
-        GraphSearch game = game(10, 20);
-        moves(game, 0, 1);
+        GraphSearch game = Games.with(10, 20);
+        Games.addMoves(game, 0, 1);
         Due.due("5: value before", 0, () -> game.value(0, 1));
         Due.due("5: change to lost", true, () -> game.change(1, -500, true));
         Due.due("5: value of a mate", 999, () -> game.value(0, 1));
@@ -189,10 +114,10 @@ public final class PromisesTest {
     }
 
     private static void value() {
-        GraphSearch game = game(10, -20, 30, 40);
-        moves(game, 0, 1, 2);
-        moves(game, 1, 0);
-        moves(game, 2, 3);
+        GraphSearch game = Games.with(10, -20, 30, 40);
+        Games.addMoves(game, 0, 1, 2);
+        Games.addMoves(game, 1, 0);
+        Games.addMoves(game, 2, 3);
         Due.due("6: value(0, 0) is the worth", 10, () -> game.value(0, 0));
         Due.due("6: value(3, 0) without moves", 0, () -> game.value(3, 0));
         Due.due("6: value(3, 7) without moves", 0, () -> game.value(3, 7));
@@ -200,13 +125,13 @@ public final class PromisesTest {
         Due.due("6: value(0, 2)", 10, () -> game.value(0, 2));
         Due.due("6: value(1, 7)", -10, () -> game.value(1, 7));
         Due.due("6: value(0, 7)", 20, () -> game.value(0, 7));
-        GraphSearch far = game(500, -500);
-        moves(far, 0, 1);
-        moves(far, 1, 0);
+        GraphSearch far = Games.with(500, -500);
+        Games.addMoves(far, 0, 1);
+        Games.addMoves(far, 1, 0);
         Due.due("6: the greatest worth is no mate", -500, () -> far.value(1, 1));
         Due.due("6: the least worth is no mate", 500, () -> far.value(0, 1));
-        GraphSearch alone = game(-300);
-        moves(alone, 0, 0);
+        GraphSearch alone = Games.with(-300);
+        Games.addMoves(alone, 0, 0);
         for (int depth = 0; depth <= 7; depth++) {
             int asked = depth;
             Due.due("6: a move to itself, " + depth, depth % 2 == 0 ? -300 : 300, () -> alone.value(0, asked));
@@ -214,7 +139,7 @@ public final class PromisesTest {
     }
 
     private static void valueOfMates() {
-        GraphSearch game = rowToLost(7);
+        GraphSearch game = Games.rowToLost(7);
         int[] fromStart = {100, -101, 102, -103, 104, -105, 106, 993};
         for (int depth = 0; depth <= 7; depth++) {
             int asked = depth;
@@ -226,49 +151,49 @@ public final class PromisesTest {
             Due.due("6: mate in " + steps, bySteps[steps], () -> game.value(start, 7));
         }
         // The nearer of two mates is the better one for the winner, the further one for the loser.
-        GraphSearch choice = rowToLost(4);
+        GraphSearch choice = Games.rowToLost(4);
         choice.node(0, false);
-        moves(choice, 5, 1, 3);
+        Games.addMoves(choice, 5, 1, 3);
         Due.due("6: the loser's choice", -996, () -> choice.value(5, 7));
         Due.due("6: the loser's move", 0, () -> choice.best(5, 7));
         choice.node(0, false);
-        moves(choice, 6, 0, 2);
+        Games.addMoves(choice, 6, 0, 2);
         Due.due("6: the winner's choice", 997, () -> choice.value(6, 7));
         Due.due("6: the winner's move", 1, () -> choice.best(6, 7));
     }
 
     private static void best() {
-        GraphSearch game = game(0, 30, -30, -30, 5);
+        GraphSearch game = Games.with(0, 30, -30, -30, 5);
         for (int from = 1; from <= 3; from++) {
-            moves(game, from, 4);
+            Games.addMoves(game, from, 4);
         }
-        moves(game, 4, 0);
-        moves(game, 0, 1, 2, 3);
+        Games.addMoves(game, 4, 0);
+        Games.addMoves(game, 0, 1, 2, 3);
         Due.due("7: best at depth 0", NONE, () -> game.best(0, 0));
         Due.due("7: the first of two", 1, () -> game.best(0, 1));
         Due.due("7: all alike", 0, () -> game.best(0, 2));
         Due.due("7: best with one move", 0, () -> game.best(4, 7));
-        GraphSearch none = game(3);
+        GraphSearch none = Games.with(3);
         Due.due("7: best without moves", NONE, () -> none.best(0, 7));
     }
 
     private static void reaches() {
-        GraphSearch game = game(10, -20);
-        moves(game, 0, 1);
-        moves(game, 1, 0);
+        GraphSearch game = Games.with(10, -20);
+        Games.addMoves(game, 0, 1);
+        Games.addMoves(game, 1, 0);
         Due.due("8: below", true, () -> game.reaches(0, 1, 19));
         Due.due("8: the same", true, () -> game.reaches(0, 1, 20));
         Due.due("8: above", false, () -> game.reaches(0, 1, 21));
         Due.due("8: another depth", false, () -> game.reaches(0, 2, 11));
         Due.due("8: least", true, () -> game.reaches(0, 1, LEAST));
         Due.due("8: most", false, () -> game.reaches(0, 1, MOST));
-        GraphSearch lost = rowToLost(0);
+        GraphSearch lost = Games.rowToLost(0);
         Due.due("8: lost, -1000", true, () -> lost.reaches(0, 7, -1000));
         Due.due("8: lost, -999", false, () -> lost.reaches(0, 7, -999));
     }
 
     private static void line() {
-        GraphSearch game = rowToLost(3);
+        GraphSearch game = Games.rowToLost(3);
         for (int i = 0; i <= 3; i++) {
             int asked = i;
             Due.due("9: the mate's node " + i, i, () -> game.line(0, 7, asked));
@@ -287,13 +212,13 @@ public final class PromisesTest {
 
     /** Node 1's best move is 0 at depth 1, and 1 at depth 2: which one is taken tells the depth. */
     private static void lineGetsShallower() {
-        GraphSearch game = game(0, 0, -50, -10, 400, -400);
-        moves(game, 0, 1);
-        moves(game, 1, 2, 3);
-        moves(game, 2, 5);
-        moves(game, 3, 4);
-        moves(game, 4, 4);
-        moves(game, 5, 5);
+        GraphSearch game = Games.with(0, 0, -50, -10, 400, -400);
+        Games.addMoves(game, 0, 1);
+        Games.addMoves(game, 1, 2, 3);
+        Games.addMoves(game, 2, 5);
+        Games.addMoves(game, 3, 4);
+        Games.addMoves(game, 4, 4);
+        Games.addMoves(game, 5, 5);
         Due.due("9: best(1, 1)", 0, () -> game.best(1, 1));
         Due.due("9: best(1, 2)", 1, () -> game.best(1, 2));
         Due.due("9: line(0, 2, 2)", 2, () -> game.line(0, 2, 2));
@@ -301,42 +226,42 @@ public final class PromisesTest {
     }
 
     private static void ties() {
-        GraphSearch game = game(0, 30, -30, -30, 5);
-        moves(game, 1, 4);
-        moves(game, 2, 4);
-        moves(game, 3, 4);
-        moves(game, 4, 4);
-        moves(game, 0, 1, 2, 3, 2);
+        GraphSearch game = Games.with(0, 30, -30, -30, 5);
+        Games.addMoves(game, 1, 4);
+        Games.addMoves(game, 2, 4);
+        Games.addMoves(game, 3, 4);
+        Games.addMoves(game, 4, 4);
+        Games.addMoves(game, 0, 1, 2, 3, 2);
         Due.due("10: three of four", 3, () -> game.ties(0, 1));
         Due.due("10: all", 4, () -> game.ties(0, 2));
         Due.due("10: at depth 0", 0, () -> game.ties(0, 0));
         Due.due("10: one move", 1, () -> game.ties(4, 7));
-        GraphSearch mates = rowToLost(1);
-        moves(mates, 0, 0, 1, 1);
+        GraphSearch mates = Games.rowToLost(1);
+        Games.addMoves(mates, 0, 0, 1, 1);
         Due.due("10: mates behind the first one count", 3, () -> mates.ties(0, 7));
         Due.due("10: without moves", 0, () -> mates.ties(1, 7));
     }
 
     private static void settled() {
-        GraphSearch game = rowToLost(3);
+        GraphSearch game = Games.rowToLost(3);
         Due.due("11: a mate in 3", 3, () -> game.settled(0, 7));
         Due.due("11: up to where it is found", 3, () -> game.settled(0, 3));
         Due.due("11: before it is found", 2, () -> game.settled(0, 2));
         Due.due("11: depth 0", 0, () -> game.settled(0, 0));
         Due.due("11: without moves", 0, () -> game.settled(3, 7));
-        GraphSearch restless = game(9);
-        moves(restless, 0, 0);
+        GraphSearch restless = Games.with(9);
+        Games.addMoves(restless, 0, 0);
         Due.due("11: another value each time", 7, () -> restless.settled(0, 7));
-        GraphSearch steady = game(0, 0);
-        moves(steady, 0, 1);
-        moves(steady, 1, 0);
+        GraphSearch steady = Games.with(0, 0);
+        Games.addMoves(steady, 0, 1);
+        Games.addMoves(steady, 1, 0);
         Due.due("11: the same from the start", 0, () -> steady.settled(0, 7));
         // Depths 0 .. 3 tell 5, -5, 5, 5: depth 0 has the same value, but not all from it on.
-        GraphSearch back = game(5, 5, 5, -5);
-        moves(back, 0, 1);
-        moves(back, 1, 2);
-        moves(back, 2, 3);
-        moves(back, 3, 3);
+        GraphSearch back = Games.with(5, 5, 5, -5);
+        Games.addMoves(back, 0, 1);
+        Games.addMoves(back, 1, 2);
+        Games.addMoves(back, 2, 3);
+        Games.addMoves(back, 3, 3);
         Due.due("11: value at 0", 5, () -> back.value(0, 0));
         Due.due("11: value at 1", -5, () -> back.value(0, 1));
         Due.due("11: value at 3", 5, () -> back.value(0, 3));
@@ -347,8 +272,8 @@ public final class PromisesTest {
         GraphSearch game = new GraphSearch(0);
         game.node(-77, true);
         game.node(88, false);
-        moves(game, 0, 1, 0, 1, 0, 1, 0);
-        moves(game, 1, 0);
+        Games.addMoves(game, 0, 1, 0, 1, 0, 1, 0);
+        Games.addMoves(game, 1, 0);
         int[] ofFull = {-77, 1, 6, 1, 0, 1, 0, 1, 0};
         int[] ofOther = {88, 0, 1, 0, NONE, NONE, NONE, NONE, NONE};
         for (int w = 0; w <= 8; w++) {
@@ -370,18 +295,18 @@ public final class PromisesTest {
     }
 
     private static void around() {
-        GraphSearch game = rowToLost(8);
+        GraphSearch game = Games.rowToLost(8);
         for (int depth = 0; depth <= 7; depth++) {
             int asked = depth;
             Due.due("13: a row, depth " + depth, depth + 1, () -> game.around(0, asked));
         }
         Due.due("13: from its end", 1, () -> game.around(8, 7));
         Due.due("13: near its end", 3, () -> game.around(6, 7));
-        GraphSearch rings = game(0, 0, 0, 0, 0);
-        moves(rings, 0, 1, 2, 1, 0);
-        moves(rings, 1, 2, 3);
-        moves(rings, 2, 0);
-        moves(rings, 3, 4);
+        GraphSearch rings = Games.with(0, 0, 0, 0, 0);
+        Games.addMoves(rings, 0, 1, 2, 1, 0);
+        Games.addMoves(rings, 1, 2, 3);
+        Games.addMoves(rings, 2, 0);
+        Games.addMoves(rings, 3, 4);
         Due.due("13: ring, depth 0", 1, () -> rings.around(0, 0));
         Due.due("13: ring, depth 1", 3, () -> rings.around(0, 1));
         Due.due("13: ring, depth 2", 4, () -> rings.around(0, 2));
@@ -394,9 +319,9 @@ public final class PromisesTest {
     }
 
     private static void look() {
-        GraphSearch game = game(1, 2, 3);
-        moves(game, 0, 1, 2);
-        moves(game, 2, 2);
+        GraphSearch game = Games.with(1, 2, 3);
+        Games.addMoves(game, 0, 1, 2);
+        Games.addMoves(game, 2, 2);
         Due.due("14: nodes", 3, () -> game.look(0));
         Due.due("14: moves", 3, () -> game.look(1));
         game.drop(0);
@@ -406,50 +331,5 @@ public final class PromisesTest {
         for (int wrong : new int[] {-1, 2, 3, LEAST, MOST}) {
             Due.due("14: look(" + wrong + ")", NONE, () -> game.look(wrong));
         }
-    }
-
-    private static void wrongQuestions() {
-        GraphSearch game = game(1, 2);
-        moves(game, 0, 1);
-        for (int wrong : new int[] {2, -1, 400, LEAST, MOST}) {
-            refused(game, wrong, 1);
-        }
-        for (int wrong : new int[] {8, -1, LEAST, MOST}) {
-            refused(game, 0, wrong);
-        }
-        refused(game, -1, -1);
-    }
-
-    private static void refused(GraphSearch game, int node, int depth) {
-        String asked = "(" + node + ", " + depth + ")";
-        Due.due("6: value" + asked, Due.ARGUMENT, () -> game.value(node, depth));
-        Due.due("7: best" + asked, Due.ARGUMENT, () -> game.best(node, depth));
-        Due.due("8: reaches" + asked, Due.ARGUMENT, () -> game.reaches(node, depth, 0));
-        Due.due("9: line" + asked, Due.ARGUMENT, () -> game.line(node, depth, 0));
-        Due.due("9: line" + asked + " of -1", Due.ARGUMENT, () -> game.line(node, depth, -1));
-        Due.due("10: ties" + asked, Due.ARGUMENT, () -> game.ties(node, depth));
-        Due.due("11: settled" + asked, Due.ARGUMENT, () -> game.settled(node, depth));
-        Due.due("13: around" + asked, Due.ARGUMENT, () -> game.around(node, depth));
-    }
-
-    /** Asks deep first, then shallow, and again after each change: the table must never tell an old value. */
-    private static void whatWasAskedBefore() {
-        GraphSearch game = game(10, 20);
-        moves(game, 0, 1);
-        moves(game, 1, 0);
-        Due.due("6: deep first", -20, () -> game.value(0, 7));
-        Due.due("6: then shallow", 10, () -> game.value(0, 0));
-        game.change(1, 21, false);
-        Due.due("6: after change", -21, () -> game.value(0, 7));
-        game.node(0, true);
-        Due.due("6: after node", -21, () -> game.value(0, 7));
-        game.move(0, 2);
-        Due.due("6: after move", 999, () -> game.value(0, 7));
-        Due.due("7: after move", 1, () -> game.best(0, 7));
-        game.drop(0);
-        Due.due("6: after drop", -21, () -> game.value(0, 7));
-        Due.due("6: the new node", -1000, () -> game.value(2, 7));
-        game.node(0, true);
-        Due.due("6: the newer node, asked at once", -1000, () -> game.value(3, 3));
     }
 }
