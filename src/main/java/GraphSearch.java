@@ -227,8 +227,9 @@ public final class GraphSearch {
     }
 
     private void deepenTo(int depth) {
-        for (; rowsFound <= depth; rowsFound++) {
-            findRow(rowsFound);
+        for (int next = rowsFound; next <= depth; next++) {
+            findRow(next);
+            rowsFound = next + 1;
         }
     }
 
